@@ -510,7 +510,7 @@ public final class EdgeWear {
         }
 
         boolean isAbove(int high) {
-            return count > 0 && latestFirst[0] > high;
+            return latestFirst[0] > high;
         }
 
         boolean isRising(int run) {

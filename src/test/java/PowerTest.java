@@ -37,6 +37,7 @@ public final class PowerTest {
 
     private static void firstNumbersOfTheRules() {
         readings("high is 1000", shop(), new int[][] {{1000, -1}, {1001, 0}});
+        readings("the first reading, too", shop(), new int[][] {{1001, 0}, {1000, -1}});
         readings("run is 4", shop(), new int[][] {{1, -1}, {2, -1}, {3, -1}, {4, 1}});
         readings("middle is 500", shop(), new int[][] {
             {501, -1}, {501, -1}, {501, -1}, {501, 2}, {500, -1}, {501, -1}});
