@@ -8,6 +8,8 @@ final class Check {
     static final String ARGUMENT = "throws.IllegalArgumentException";
     static final String STATE = "throws.IllegalStateException";
 
+    private String sentence = "";
+    private int ofSentence = 1;
     private int calls;
     private int wrong;
 
@@ -28,6 +30,20 @@ final class Check {
         });
     }
 
+    /** The document's words that all answers up to the next sentence are held against. */
+    void sentence(String words) {
+        leaveSentence();
+        sentence = words;
+        ofSentence = 0;
+    }
+
+    private void leaveSentence() {
+        if (ofSentence == 0) {
+            wrong++;
+            System.out.println("[" + sentence + "] was not tested");
+        }
+    }
+
     void due(String what, Object want, Call call) {
         same(what, String.valueOf(want), answer(call));
     }
@@ -36,19 +52,23 @@ final class Check {
         same(what, "done", did(call));
     }
 
+    /** For a refused call that would have no answer. */
     void refused(String what, String want, Runnable call) {
         same(what, want, did(call));
     }
 
     void same(String what, String want, String got) {
         calls++;
+        ofSentence++;
         if (!want.equals(got)) {
             wrong++;
-            System.out.println(what + " answered " + got + ", due is " + want);
+            String of = sentence.isEmpty() ? "" : "[" + sentence + "] ";
+            System.out.println(of + what + " answered " + got + ", due is " + want);
         }
     }
 
     void end() {
+        leaveSentence();
         System.out.println(calls + " answers, " + wrong + " not as due");
         if (wrong != 0 || calls == 0) {
             System.exit(1);

@@ -40,7 +40,8 @@ public final class FaceTest {
         check.same("class", "public final", Modifier.toString(EdgeWear.class.getModifiers()));
         members(check);
         constants(check);
-        everyPlainSeedMakesAnObject(check);
+        everySeedMakesAnObject(check);
+        objectsShareNothing(check);
         check.end();
     }
 
@@ -95,7 +96,8 @@ public final class FaceTest {
         check.same("constants", want.toString(), seen.toString());
     }
 
-    private static void everyPlainSeedMakesAnObject(Check check) {
+    private static void everySeedMakesAnObject(Check check) {
+        check.sentence("1: A SEED");
         for (int seed : new int[] {0, 1, -1, Integer.MAX_VALUE, Integer.MIN_VALUE}) {
             EdgeWear x = new EdgeWear(seed);
             check.due("open() of a new object", 0, x::open);
@@ -108,5 +110,19 @@ public final class FaceTest {
             }
             check.due("about(0, 0) of a new object", Check.INDEX, () -> x.about(0, 0));
         }
+    }
+
+    private static void objectsShareNothing(Check check) {
+        check.sentence("1: A new object");
+        EdgeWear full = Shops.full();
+        EdgeWear x = new EdgeWear(7);
+        check.due("no tools", Check.INDEX, () -> x.about(0, 0));
+        check.due("no lives", 1, () -> x.life(0, 5));
+        check.due("no orders", 0, x::open);
+        check.due("room for a tool", 0, () -> x.tool(3, 5, 5));
+        check.due("room for an order", true, () -> x.order(0, 0));
+        check.due("the full one is as it was", 16, full::open);
+        check.due("it has no room", Check.STATE, () -> full.tool(0, 5, 5));
+        check.due("its tool 0 is as it was", 10L, () -> full.about(0, 1));
     }
 }
