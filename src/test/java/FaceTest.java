@@ -39,6 +39,7 @@ public final class FaceTest {
         Check check = new Check();
         check.same("class", "public final", Modifier.toString(EdgeWear.class.getModifiers()));
         members(check);
+        classesInside(check);
         constants(check);
         everySeedMakesAnObject(check);
         objectsShareNothing(check);
@@ -77,6 +78,14 @@ public final class FaceTest {
 
     private static String names(Class<?>[] types) {
         return Arrays.stream(types).map(Class::getSimpleName).collect(Collectors.joining(","));
+    }
+
+    private static void classesInside(Check check) {
+        for (Class<?> inside : EdgeWear.class.getDeclaredClasses()) {
+            int kind = inside.getModifiers();
+            check.due(inside.getName() + " is static and not to be seen from outside", true,
+                    () -> Modifier.isStatic(kind) && !Modifier.isPublic(kind) && !Modifier.isProtected(kind));
+        }
     }
 
     private static void constants(Check check) throws IllegalAccessException {
